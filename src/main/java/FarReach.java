@@ -21,7 +21,7 @@ public final class FarReach {
 
     private final Page page;
     private final Reader reader;
-    private final Program program;
+    private final Items program;
     private final int[] reaches;
     private final Placing placing;
     private int timesRead;
@@ -30,7 +30,7 @@ public final class FarReach {
     public FarReach() {
         page = new Page();
         reader = new Reader();
-        program = new Program();
+        program = new Items();
         reaches = new int[] {8, 32, 24};
         placing = new Placing(program, reaches);
     }
@@ -58,7 +58,7 @@ public final class FarReach {
         if (reader.read(page) < page.length() || !reader.isWhole()) {
             return STATE;
         }
-        program.takeFrom(reader);
+        program.takeFrom(reader.items);
         page.clear();
         timesRead++;
         placing.placeAll();
@@ -271,9 +271,7 @@ public final class FarReach {
     private static final class Reader {
         private static final int ALL_LABELS = (1 << LABELS) - 1;
 
-        private final int[] kinds = new int[MOST_ITEMS];
-        private final int[] told = new int[MOST_ITEMS];
-        private int size;
+        private final Items items = new Items();
         /** The kind of the item of which only the first letter has come, or NONE. */
         private int open;
         /** Of labels, a bit each: those that came, and those to which branches lead. */
@@ -282,7 +280,7 @@ public final class FarReach {
 
         /** The place of the first letter with which no code begins, or the page's length. */
         int read(Page page) {
-            size = 0;
+            items.clear();
             open = NONE;
             labelsMet = 0;
             labelsWanted = 0;
@@ -298,16 +296,16 @@ public final class FarReach {
 
         /** Whether the letters that were read, if none was wrong, are code as they stand. */
         boolean isWhole() {
-            return size > 0 && open == NONE && (labelsWanted & ~labelsMet) == 0;
+            return items.size() > 0 && open == NONE && (labelsWanted & ~labelsMet) == 0;
         }
 
         private boolean begins(int letter) {
             int kind = kindBegunBy(letter);
-            if (kind == NONE || size >= MOST_ITEMS) {
+            if (kind == NONE || items.size() >= MOST_ITEMS) {
                 return false;
             }
             if (kind == RETURN) {
-                return keep(RETURN, 0);
+                return items.add(RETURN, 0);
             }
             // once all labels came, no letter could stand behind one more ":"
             if (kind == LABEL && labelsMet == ALL_LABELS) {
@@ -321,9 +319,9 @@ public final class FarReach {
             int kind = open;
             open = NONE;
             switch (kind) {
-                case PLAIN: return letter >= '1' && letter <= '9' && keep(PLAIN, letter - '0');
-                case LOAD: return letter >= '0' && letter <= '9' && keep(LOAD, letter - '0');
-                case ALIGN: return letter >= '1' && letter <= '3' && keep(ALIGN, 1 << (letter - '0'));
+                case PLAIN: return letter >= '1' && letter <= '9' && items.add(PLAIN, letter - '0');
+                case LOAD: return letter >= '0' && letter <= '9' && items.add(LOAD, letter - '0');
+                case ALIGN: return letter >= '1' && letter <= '3' && items.add(ALIGN, 1 << (letter - '0'));
                 default: return letter >= 'A' && letter < 'A' + LABELS && endsWithLabel(kind, letter - 'A');
             }
         }
@@ -332,23 +330,13 @@ public final class FarReach {
             int bit = 1 << label;
             if (kind == BRANCH) {
                 labelsWanted |= bit;
-                return keep(BRANCH, label);
+                return items.add(BRANCH, label);
             }
             if ((labelsMet & bit) != 0) {
                 return false;
             }
             labelsMet |= bit;
-            return keep(LABEL, label);
-        }
-
-        private boolean keep(int kind, int what) {
-            if (size < 0 || size >= kinds.length || size >= told.length) {
-                return false;
-            }
-            kinds[size] = kind;
-            told[size] = what;
-            size++;
-            return true;
+            return items.add(LABEL, label);
         }
 
         private static int kindBegunBy(int letter) {
@@ -362,38 +350,24 @@ public final class FarReach {
                 default: return NONE;
             }
         }
-
-        int size() {
-            return size;
-        }
-
-        int kindOf(int item) {
-            return item >= 0 && item < size && item < kinds.length ? kinds[item] : NONE;
-        }
-
-        int toldOf(int item) {
-            return item >= 0 && item < size && item < told.length ? told[item] : NONE;
-        }
     }
 
-    /** The code that is laid: its items, before anything is placed. */
-    private static final class Program {
+    /** A row of items: what kinds they are, and what is told of them. */
+    private static final class Items {
         private final int[] kinds = new int[MOST_ITEMS];
         private final int[] told = new int[MOST_ITEMS];
         private int size;
         private int gaps;
 
-        void takeFrom(Reader reader) {
+        void clear() {
             size = 0;
             gaps = 0;
-            for (int item = 0; item < reader.size() && item < MOST_ITEMS; item++) {
-                take(reader.kindOf(item), reader.toldOf(item));
-            }
         }
 
-        private void take(int kind, int what) {
+        /** Whether there was room for one more. */
+        boolean add(int kind, int what) {
             if (size < 0 || size >= kinds.length || size >= told.length) {
-                return;
+                return false;
             }
             kinds[size] = kind;
             told[size] = what;
@@ -401,6 +375,14 @@ public final class FarReach {
                 gaps++;
             }
             size++;
+            return true;
+        }
+
+        void takeFrom(Items other) {
+            clear();
+            for (int item = 0; item < other.size() && item < MOST_ITEMS; item++) {
+                add(other.kindOf(item), other.toldOf(item));
+            }
         }
 
         int size() {
@@ -518,7 +500,7 @@ public final class FarReach {
 
     /** Lays the program round by round, and mends one thing in each. */
     private static final class Placing {
-        private final Program program;
+        private final Items program;
         private final int[] reaches;
         private final Stock islands = new Stock(MOST_ISLANDS);
         private final Stock constants = new Stock(MOST_CONSTANTS);
@@ -536,7 +518,7 @@ public final class FarReach {
         private int failedAt = NOWHERE;
         private int failedNumber = NONE;
 
-        Placing(Program program, int[] reaches) {
+        Placing(Items program, int[] reaches) {
             this.program = program;
             this.reaches = reaches;
         }
