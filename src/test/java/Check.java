@@ -31,7 +31,7 @@ final class Check {
         return x;
     }
 
-    /** item(), island() or constant() for each what of one number, joined with the due ones by commas. */
+    /** What item() is due to answer for what = 0, 1 and so on; the others below are alike. */
     void dueItem(FarReach x, int item, int... want) {
         for (int what = 0; what < want.length; what++) {
             due("item(" + item + ", " + what + ")", x.item(item, what), want[what]);
