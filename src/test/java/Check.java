@@ -11,6 +11,10 @@ final class Check {
         }
     }
 
+    int wrong() {
+        return wrong;
+    }
+
     /** Ends the program: with exit code 1 if an answer was wrong, or none was asked. */
     void end() {
         System.out.println(asked + " answers, " + wrong + " of them not as due");
